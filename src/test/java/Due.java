@@ -99,8 +99,10 @@ final class Due {
     /** The bytes of a letter, with spaces between them. */
     static String letter(SnapSites x, int i) {
         StringBuilder text = new StringBuilder();
-        for (int k = 0; x.byteOf(i, k) != SnapSites.NONE; k++) {
-            text.append(k == 0 ? "" : " ").append(x.byteOf(i, k));
+        int found = x.byteOf(i, 0);
+        for (int k = 1; found != SnapSites.NONE; k++) {
+            text.append(k == 1 ? "" : " ").append(found);
+            found = x.byteOf(i, k);
         }
         return text.toString();
     }
