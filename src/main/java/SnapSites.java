@@ -161,7 +161,11 @@ public final class SnapSites {
 
     public boolean copy(int i) throws IllegalArgumentException {
         needLetter(i);
-        return lay(letters.get(i));
+        if (!hasRoom()) {
+            return false;
+        }
+        letters.add(letters.get(i));
+        return true;
     }
 
     public int byteOf(int i, int k) throws IllegalArgumentException {
@@ -431,15 +435,13 @@ public final class SnapSites {
 
     private void send(int kind, int from, int to, int transaction) {
         sent++;
-        lay(new Letter(kind, from, to, transaction));
+        if (hasRoom()) {
+            letters.add(new Letter(kind, from, to, transaction));
+        }
     }
 
-    private boolean lay(Letter letter) {
-        if (letters.size() >= MOST_LETTERS) {
-            return false;
-        }
-        letters.add(letter);
-        return true;
+    private boolean hasRoom() {
+        return letters.size() < MOST_LETTERS;
     }
 
     private int handOver(Letter letter, Transaction t) {

@@ -48,9 +48,12 @@ public final class CommitTest {
         Due.due("8: no letter of it", Due.letters(x), "5:0>1#1");
         Due.due("8: other objects", x.commit(apart), 2);
         Due.due("8: the refused has no sequence", x.about(apart, 2), 2);
+        int far = Due.writer(x, 1, 1);
+        Due.committer(x, 1, 1);
+        Due.due("8: at another site", x.commit(far), 3);
         int next = Due.writer(x, 0, 0, 2);
         Due.due("8: it sees them", x.commit(next), 2);
-        Due.due("8: what it wrote is refused too", x.value(0, 2), 302);
+        Due.due("8: what it wrote is refused too", x.value(0, 2), 502);
     }
 
     private static void promise8FastUnfitByLock() {

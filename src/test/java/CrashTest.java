@@ -10,6 +10,7 @@ public final class CrashTest {
         promise15Wrong();
         promise16Frees();
         promise16OnlyThoseOfThisCrash();
+        promise16OnlyThoseOfThisSite();
         promise16LocksOfOthersStay();
         promise16FreesIntoAFullRow();
         promise16Wrong();
@@ -147,6 +148,22 @@ public final class CrashTest {
         x.crash(0);
         x.restart(0);
         Due.due("16: no FREE for one that was refused", x.total(2), sent);
+    }
+
+    private static void promise16OnlyThoseOfThisSite() {
+        SnapSites x = Due.opened(3);
+        int a = Due.committer(x, 0, 0, 1);
+        int b = Due.committer(x, 2, 2, 1);
+        x.crash(0);
+        x.crash(2);
+        x.restart(2);
+        Due.due("16: a FREE of site 2's", Due.letters(x), "1:0>1#0 1:2>1#1 4:2>1#1");
+        Due.due("16: unlocked at 2", x.locked(2, 2), SnapSites.NONE);
+        Due.due("16: locked at 0", x.locked(0, 0), a);
+        x.restart(0);
+        Due.due("16: a FREE of site 0's", Due.letters(x), "1:0>1#0 1:2>1#1 4:2>1#1 4:0>1#0");
+        Due.due("16: unlocked at 0", x.locked(0, 0), SnapSites.NONE);
+        Due.due("16: both lost", x.about(a, 0) + x.about(b, 0), 8);
     }
 
     private static void promise16LocksOfOthersStay() {

@@ -82,6 +82,15 @@ public final class LettersTest {
         x.deliver(0);
         Due.due("11: a NO to a lost one does nothing", Due.abouts(x, t), "4 0 0 0 0");
         Due.due("11: no FREE", x.total(1), 0);
+        SnapSites y = Due.opened(3);
+        Due.committer(y, 0, 1, 2);
+        y.crash(0);
+        y.restart(0);
+        y.deliver(2);
+        y.deliver(2);
+        y.deliver(0);
+        y.deliver(0);
+        Due.due("11: a FREE came to both", Due.letters(y), "3:1>0#0 3:2>0#0");
     }
 
     private static void promise11AskWhenApplied() {
@@ -155,6 +164,14 @@ public final class LettersTest {
         Due.due("11: no more letters", Due.letters(x), "4:0>1#0 4:0>2#0");
         Due.due("11: a FREE", x.deliver(0), 0);
         Due.due("11: unlocks", x.locked(1, 1), SnapSites.NONE);
+        SnapSites y = new SnapSites();
+        int far = Due.writer(y, 1, 0, 1);
+        Due.committer(y, 0, 0);
+        y.commit(far);
+        y.deliver(1);
+        Due.due("11: locked till the NO comes", y.locked(1, 1), far);
+        y.deliver(1);
+        Due.due("11: unlocked at a site that is not 0", y.locked(1, 1), SnapSites.NONE);
     }
 
     private static void promise11Free() {
@@ -200,6 +217,13 @@ public final class LettersTest {
         x.deliver(1);
         Due.due("11: one that came twice is kept once", x.total(3), 1);
         Due.due("11: both", x.deliver(0), 2);
+        SnapSites y = new SnapSites();
+        int slow = y.begin(0);
+        y.commit(y.begin(0));
+        y.commit(slow);
+        Due.due("11: the sequence counts, not the number", y.deliver(1), 0);
+        Due.due("11: number 0 is kept", y.total(3), 1);
+        Due.due("11: both of them", y.deliver(0), 2);
     }
 
     private static void promise11TellAfterItsStart() {
@@ -406,6 +430,19 @@ public final class LettersTest {
         Due.due("14: a TELL", Due.letter(x, 0), checked(5, 0, 1, 0, t, 0, 1, 0, 0, 0, 2,
                 2, 2, 0x12, 0x34, 0x56, 0x78, 18, 128, 0, 0, 0, 3, 39, 255, 1, 1, 39, 1));
         x.drop(0);
+        int ends = x.begin(1);
+        x.write(ends, 19, 1);
+        x.write(ends, 0, 256);
+        x.commit(ends);
+        Due.due("14: an ASK for the first object", Due.letter(x, 0), checked(1, 1, 0, 0, ends, 0, 0, 0, 0, 1, 0));
+        x.open(2);
+        int first = x.begin(0);
+        x.write(first, 0, 256);
+        x.commit(first);
+        Due.due("14: a TELL of the first object", Due.letter(x, 0),
+                checked(5, 0, 1, 0, 0, 0, 0, 0, 0, 0, 1, 1, 0, 0, 0, 1, 0, 0));
+        x.drop(0);
+        x.begin(1);
         x.commit(x.begin(1));
         Due.due("14: a TELL of nothing", Due.letter(x, 0), checked(5, 1, 0, 0, 2, 0, 0, 0, 0, 0, 1, 0, 0));
     }

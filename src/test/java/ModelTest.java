@@ -1,3 +1,4 @@
+import java.lang.reflect.InvocationTargetException;
 import java.util.Arrays;
 import java.util.Random;
 
@@ -7,6 +8,7 @@ public final class ModelTest {
     private static final int RUNS = 1500;
     private static final long ARGUMENT = Long.MAX_VALUE;
     private static final long STATE = Long.MAX_VALUE - 1;
+    private static final long OTHER = Long.MAX_VALUE - 2;
 
     private static final String[] CALLED = {
         "open", "begin", "read", "write", "change", "count", "commit", "abort", "again", "deliver", "drop",
@@ -67,8 +69,8 @@ public final class ModelTest {
         for (int call = 1; call < CALLS; call++) {
             String name = CALLED[pick(mood)];
             int[] arguments = argumentsOf(name, model);
-            long want = answer(null, model, name, arguments);
-            long got = answer(x, null, name, arguments);
+            long want = answer(model, name, arguments);
+            long got = answer(x, name, arguments);
             if (got != want) {
                 Due.fail("run " + run + ", call " + call + ": " + name + Arrays.toString(arguments) + " answered "
                         + got + ", due is " + want);
@@ -97,7 +99,7 @@ public final class ModelTest {
         fullRows += model.total(1) == 300 ? 1 : 0;
         fullTransactions += model.total(0) == 200 ? 1 : 0;
         tellsKept += model.total(3) > 0 ? 1 : 0;
-        severalApplied += name.equals("deliver") && answer > 1 && answer < STATE ? 1 : 0;
+        severalApplied += name.equals("deliver") && answer > 1 && answer < OTHER ? 1 : 0;
         lateCommits += name.equals("deliver") && answer == 1 && model.total(2) > sentBefore ? 1 : 0;
         freesAtRestart += name.equals("restart") && model.total(2) > sentBefore ? 1 : 0;
         sentBefore = model.total(2);
@@ -174,70 +176,28 @@ public final class ModelTest {
         }
     }
 
-    private static long answer(SnapSites x, PlainModel model, String name, int[] a) {
+    /** The program and the model have the same calls, so both are called by name; a boolean counts 1 or 0. */
+    private static long answer(Object of, String name, int[] arguments) {
+        Object[] boxed = Arrays.stream(arguments).boxed().toArray();
+        Class<?>[] types = new Class<?>[boxed.length];
+        Arrays.fill(types, int.class);
         try {
-            return x != null ? ofProgram(x, name, a) : ofModel(model, name, a);
-        } catch (IllegalArgumentException e) {
-            return e.getClass() == IllegalArgumentException.class ? ARGUMENT : STATE - 1;
-        } catch (IllegalStateException e) {
-            return STATE;
-        } catch (RuntimeException e) {
-            return STATE - 2;
+            Object answer = of.getClass().getDeclaredMethod(name, types).invoke(of, boxed);
+            if (answer instanceof Boolean truth) {
+                return truth ? 1 : 0;
+            }
+            return answer instanceof Integer number ? number : 0;
+        } catch (InvocationTargetException e) {
+            return exception(e.getCause().getClass());
+        } catch (ReflectiveOperationException e) {
+            throw new AssertionError(e);
         }
     }
 
-    private static long nothing(Runnable call) {
-        call.run();
-        return 0;
-    }
-
-    private static long ofProgram(SnapSites x, String name, int[] a) {
-        return switch (name) {
-            case "open" -> nothing(() -> x.open(a[0]));
-            case "begin" -> x.begin(a[0]);
-            case "read" -> x.read(a[0], a[1]);
-            case "write" -> x.write(a[0], a[1], a[2]);
-            case "change" -> x.change(a[0], a[1], a[2], a[3]);
-            case "count" -> x.count(a[0], a[1], a[2]);
-            case "commit" -> x.commit(a[0]);
-            case "abort" -> nothing(() -> x.abort(a[0]));
-            case "again" -> x.again(a[0]);
-            case "deliver" -> x.deliver(a[0]);
-            case "drop" -> x.drop(a[0]);
-            case "copy" -> x.copy(a[0]) ? 1 : 0;
-            case "byteOf" -> x.byteOf(a[0], a[1]);
-            case "crash" -> nothing(() -> x.crash(a[0]));
-            case "restart" -> nothing(() -> x.restart(a[0]));
-            case "about" -> x.about(a[0], a[1]);
-            case "vector" -> x.vector(a[0], a[1]);
-            case "value" -> x.value(a[0], a[1]);
-            case "locked" -> x.locked(a[0], a[1]);
-            default -> x.total(a[0]);
-        };
-    }
-
-    private static long ofModel(PlainModel x, String name, int[] a) {
-        return switch (name) {
-            case "open" -> nothing(() -> x.open(a[0]));
-            case "begin" -> x.begin(a[0]);
-            case "read" -> x.read(a[0], a[1]);
-            case "write" -> x.write(a[0], a[1], a[2]);
-            case "change" -> x.change(a[0], a[1], a[2], a[3]);
-            case "count" -> x.count(a[0], a[1], a[2]);
-            case "commit" -> x.commit(a[0]);
-            case "abort" -> nothing(() -> x.abort(a[0]));
-            case "again" -> x.again(a[0]);
-            case "deliver" -> x.deliver(a[0]);
-            case "drop" -> x.drop(a[0]);
-            case "copy" -> x.copy(a[0]) ? 1 : 0;
-            case "byteOf" -> x.byteOf(a[0], a[1]);
-            case "crash" -> nothing(() -> x.crash(a[0]));
-            case "restart" -> nothing(() -> x.restart(a[0]));
-            case "about" -> x.about(a[0], a[1]);
-            case "vector" -> x.vector(a[0], a[1]);
-            case "value" -> x.value(a[0], a[1]);
-            case "locked" -> x.locked(a[0], a[1]);
-            default -> x.total(a[0]);
-        };
+    private static long exception(Class<?> thrown) {
+        if (thrown == IllegalArgumentException.class) {
+            return ARGUMENT;
+        }
+        return thrown == IllegalStateException.class ? STATE : OTHER;
     }
 }

@@ -6,9 +6,11 @@ public final class StoreTest {
     public static void main(String[] args) {
         promise1NewObject();
         promise2Open();
+        promise2NothingStays();
         promise3Begin();
         promise3Limit();
         promise4Read();
+        promise4AtItsOwnSite();
         promise4AppliedLatest();
         promise4Wrong();
         promise5Write();
@@ -68,6 +70,58 @@ public final class StoreTest {
         }
     }
 
+    /** One of each kind: 0 committed slowly, 1 and 2 fast (2 kept at site 1), 3 freed at home 1, 4 lost and locked. */
+    private static SnapSites fullOfTraces() {
+        SnapSites x = Due.opened(3);
+        Due.committer(x, 0, 0, 1, 2);
+        Due.deliverAll(x);
+        Due.committer(x, 0, 3);
+        Due.committer(x, 0, 3);
+        x.deliver(2);
+        Due.due("2: kept", x.total(3), 1);
+        Due.committer(x, 0, 4, 6);
+        x.crash(0);
+        x.restart(0);
+        x.deliver(x.total(1) - 1);
+        Due.committer(x, 0, 5, 9);
+        x.crash(0);
+        return x;
+    }
+
+    private static void promise2NothingStays() {
+        SnapSites x = fullOfTraces();
+        x.open(3);
+        for (int t = 0; t < 5; t++) {
+            x.begin(2);
+            Due.due("2: a new transaction", Due.abouts(x, t), "0 2 0 0 0");
+            Due.due("2: no letters of it", x.again(t), 0);
+        }
+        Due.due("2: no TELL is kept", x.total(3), 0);
+        x.write(0, 2, 8);
+        Due.due("2: what goes on is not read", x.read(4, 2), 0);
+        Due.due("2: what goes on has no value", x.value(2, 2), 0);
+        x.abort(0);
+        Due.due("2: nobody was asked", x.again(0), 0);
+        x.write(1, 2, 8);
+        x.commit(1);
+        Due.due("2: applied nowhere else", x.again(1), 2);
+        x.write(3, 1, 8);
+        Due.due("2: it waits", x.commit(3), 1);
+        x.deliver(4);
+        Due.due("2: no FREE of it came", x.byteOf(4, 0), 2);
+        x.write(4, 0, 8);
+        x.commit(4);
+        x.deliver(5);
+        Due.due("2: committed", x.deliver(5), 1);
+        int sent = x.total(2);
+        x.drop(4);
+        x.abort(2);
+        Due.due("2: 3 waits", x.about(3, 0), 1);
+        x.crash(2);
+        x.restart(2);
+        Due.due("2: a FREE of 3 alone", x.total(2), sent + 1);
+    }
+
     private static void promise3Begin() {
         SnapSites x = Due.opened(3);
         Due.due("3: first", x.begin(2), 0);
@@ -125,6 +179,17 @@ public final class StoreTest {
         Due.due("4: the newer one", x.read(x.begin(0), 0), 55);
         x.write(after, 0, 1);
         Due.due("4: its own before a seen one", x.read(after, 0), 1);
+    }
+
+    private static void promise4AtItsOwnSite() {
+        SnapSites x = Due.opened(3);
+        int t = Due.writer(x, 1, 1);
+        x.change(t, 3, 4, 1);
+        x.commit(t);
+        int after = x.begin(1);
+        Due.due("4: applied at its site alone", x.read(after, 1), 1);
+        Due.due("7: applied at its site alone", x.count(after, 3, 4), 1);
+        Due.due("4: not at another", x.read(x.begin(0), 1), 0);
     }
 
     private static void promise4AppliedLatest() {
