@@ -117,6 +117,25 @@ final class Due {
         return text.toString();
     }
 
+    /** Numbers outside 0 .. bound - 1: just below it, just behind it, and as far away as an int can be. */
+    static int[] outside(int bound) {
+        return new int[] {-1, bound, Integer.MIN_VALUE, Integer.MAX_VALUE};
+    }
+
+    /** The check of these bytes, told apart from the program's way: bit by bit, with carries. */
+    static String checked(int... bytes) {
+        int check = 0;
+        StringBuilder text = new StringBuilder();
+        for (int b : bytes) {
+            for (int turn = 0; turn < 3; turn++) {
+                check = check >= 0x8000 ? check * 2 - 0x10000 + 1 : check * 2;
+            }
+            check ^= b;
+            text.append(b).append(' ');
+        }
+        return text.append(check / 256).append(' ').append(check % 256).toString();
+    }
+
     static SnapSites opened(int sites) {
         SnapSites x = new SnapSites();
         x.open(sites);
@@ -137,6 +156,26 @@ final class Due {
         int t = writer(x, site, objects);
         x.commit(t);
         return t;
+    }
+
+    /** A transaction that waits, though no ASK of it lies there. */
+    static int waiter(SnapSites x, int site, int... objects) {
+        int before = x.total(1);
+        int t = committer(x, site, objects);
+        while (x.total(1) > before) {
+            x.drop(before);
+        }
+        return t;
+    }
+
+    /** Five sites and 300 letters, all of them TELLs of transaction 0, which site 0 committed with object 0. */
+    static SnapSites fullRow() {
+        SnapSites x = opened(5);
+        int t = committer(x, 0, 0);
+        for (int i = 4; i < 300; i += 4) {
+            x.again(t);
+        }
+        return x;
     }
 
     static void deliverAll(SnapSites x) {

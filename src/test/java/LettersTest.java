@@ -364,20 +364,6 @@ public final class LettersTest {
         Due.due("13: room again", full.copy(298), true);
     }
 
-    /** The check, told apart from the program: each byte's place decides how far it is turned. */
-    private static String checked(int... bytes) {
-        int check = 0;
-        StringBuilder text = new StringBuilder();
-        for (int b : bytes) {
-            for (int turn = 0; turn < 3; turn++) {
-                check = check >= 0x8000 ? check * 2 - 0x10000 + 1 : check * 2;
-            }
-            check ^= b;
-            text.append(b).append(' ');
-        }
-        return text.append(check / 256).append(' ').append(check % 256).toString();
-    }
-
     private static void promise14ShortLetters() {
         SnapSites x = Due.opened(5);
         for (int i = 0; i < 3; i++) {
@@ -385,17 +371,17 @@ public final class LettersTest {
         }
         int t = Due.committer(x, 4, 3);
         x.deliver(0);
-        Due.due("14: a YES", Due.letter(x, 0), checked(2, 3, 4, 0, t));
+        Due.due("14: a YES", Due.letter(x, 0), Due.checked(2, 3, 4, 0, t));
         int other = Due.committer(x, 2, 3);
         x.deliver(1);
-        Due.due("14: a NO", Due.letter(x, 1), checked(3, 3, 2, 0, other));
+        Due.due("14: a NO", Due.letter(x, 1), Due.checked(3, 3, 2, 0, other));
         x.deliver(1);
-        Due.due("14: a FREE", Due.letter(x, 1), checked(4, 2, 3, 0, other));
+        Due.due("14: a FREE", Due.letter(x, 1), Due.checked(4, 2, 3, 0, other));
         Due.due("14: behind it", x.byteOf(1, 7), SnapSites.NONE);
         Due.due("14: far behind it", x.byteOf(1, Integer.MAX_VALUE), SnapSites.NONE);
         Due.due("14: no byte before it either", x.byteOf(1, -1), SnapSites.NONE);
         Due.due("14: nor far before it", x.byteOf(1, Integer.MIN_VALUE), SnapSites.NONE);
-        Due.due("14: a letter stays as it is", Due.letter(x, 0), checked(2, 3, 4, 0, t));
+        Due.due("14: a letter stays as it is", Due.letter(x, 0), Due.checked(2, 3, 4, 0, t));
     }
 
     private static void promise14Ask() {
@@ -404,14 +390,14 @@ public final class LettersTest {
         Due.committer(x, 1, 1);
         Due.deliverAll(x);
         int t = Due.committer(x, 0, 19, 2, 7, 1, 0);
-        Due.due("14: an ASK to 1", Due.letter(x, 0), checked(1, 0, 1, 0, t, 0, 0, 0, 2, 0, 0, 3, 1, 7, 19));
-        Due.due("14: an ASK to 2", Due.letter(x, 1), checked(1, 0, 2, 0, t, 0, 0, 0, 2, 0, 0, 1, 2));
+        Due.due("14: an ASK to 1", Due.letter(x, 0), Due.checked(1, 0, 1, 0, t, 0, 0, 0, 2, 0, 0, 3, 1, 7, 19));
+        Due.due("14: an ASK to 2", Due.letter(x, 1), Due.checked(1, 0, 2, 0, t, 0, 0, 0, 2, 0, 0, 1, 2));
         x.deliver(0);
         int later = Due.committer(x, 1, 4);
         x.again(t);
         int last = x.total(1) - 2;
         Due.due("14: an ASK sent again has its START", Due.letter(x, last),
-                checked(1, 0, 1, 0, t, 0, 0, 0, 2, 0, 0, 3, 1, 7, 19));
+                Due.checked(1, 0, 1, 0, t, 0, 0, 0, 2, 0, 0, 3, 1, 7, 19));
         Due.due("14: behind another one's letters", x.about(later, 0), 2);
     }
 
@@ -427,24 +413,24 @@ public final class LettersTest {
         x.change(t, 0, 1, 1);
         x.change(t, 4, 7, 1);
         x.commit(t);
-        Due.due("14: a TELL", Due.letter(x, 0), checked(5, 0, 1, 0, t, 0, 1, 0, 0, 0, 2,
+        Due.due("14: a TELL", Due.letter(x, 0), Due.checked(5, 0, 1, 0, t, 0, 1, 0, 0, 0, 2,
                 2, 2, 0x12, 0x34, 0x56, 0x78, 18, 128, 0, 0, 0, 3, 39, 255, 1, 1, 39, 1));
         x.drop(0);
         int ends = x.begin(1);
         x.write(ends, 19, 1);
         x.write(ends, 0, 256);
         x.commit(ends);
-        Due.due("14: an ASK for the first object", Due.letter(x, 0), checked(1, 1, 0, 0, ends, 0, 0, 0, 0, 1, 0));
+        Due.due("14: an ASK for the first object", Due.letter(x, 0), Due.checked(1, 1, 0, 0, ends, 0, 0, 0, 0, 1, 0));
         x.open(2);
         int first = x.begin(0);
         x.write(first, 0, 256);
         x.commit(first);
         Due.due("14: a TELL of the first object", Due.letter(x, 0),
-                checked(5, 0, 1, 0, 0, 0, 0, 0, 0, 0, 1, 1, 0, 0, 0, 1, 0, 0));
+                Due.checked(5, 0, 1, 0, 0, 0, 0, 0, 0, 0, 1, 1, 0, 0, 0, 1, 0, 0));
         x.drop(0);
         x.begin(1);
         x.commit(x.begin(1));
-        Due.due("14: a TELL of nothing", Due.letter(x, 0), checked(5, 1, 0, 0, 2, 0, 0, 0, 0, 0, 1, 0, 0));
+        Due.due("14: a TELL of nothing", Due.letter(x, 0), Due.checked(5, 1, 0, 0, 2, 0, 0, 0, 0, 0, 1, 0, 0));
     }
 
     private static void promise14LongestTell() {
