@@ -309,7 +309,7 @@ public final class SnapSites {
     }
 
     private static boolean has(int members, int member) {
-        return (members & bit(member)) != 0;
+        return (members >> member & 1) != 0;
     }
 
     private int allSites() {

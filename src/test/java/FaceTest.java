@@ -7,12 +7,16 @@ import java.util.TreeSet;
 
 /** The public face as the document has it, and the rules 1 and 5 of LANGUAGE.md that can be seen from outside. */
 public final class FaceTest {
+    private static final String ARGUMENT = " throws IllegalArgumentException";
+    private static final String BOTH = ARGUMENT + " IllegalStateException";
     private static final String[] METHODS = {
-        "void open(int)", "int begin(int)", "int read(int, int)", "int write(int, int, int)",
-        "int change(int, int, int, int)", "int count(int, int, int)", "int commit(int)", "void abort(int)",
-        "int again(int)", "int deliver(int)", "int drop(int)", "boolean copy(int)", "int byteOf(int, int)",
-        "void crash(int)", "void restart(int)", "int about(int, int)", "int vector(int, int)",
-        "int value(int, int)", "int locked(int, int)", "int total(int)",
+        "void open(int)" + ARGUMENT, "int begin(int)" + BOTH, "int read(int, int)" + BOTH,
+        "int write(int, int, int)" + BOTH, "int change(int, int, int, int)" + BOTH,
+        "int count(int, int, int)" + BOTH, "int commit(int)" + BOTH, "void abort(int)" + BOTH,
+        "int again(int)" + BOTH, "int deliver(int)" + ARGUMENT, "int drop(int)" + ARGUMENT,
+        "boolean copy(int)" + ARGUMENT, "int byteOf(int, int)" + ARGUMENT, "void crash(int)" + BOTH,
+        "void restart(int)" + BOTH, "int about(int, int)" + ARGUMENT, "int vector(int, int)" + ARGUMENT,
+        "int value(int, int)" + ARGUMENT, "int locked(int, int)" + ARGUMENT, "int total(int)" + ARGUMENT,
     };
 
     private FaceTest() {
@@ -39,8 +43,12 @@ public final class FaceTest {
 
     private static String shape(Method method) {
         String parameters = Arrays.toString(method.getParameterTypes());
-        return method.getReturnType() + " " + method.getName() + "("
-                + parameters.substring(1, parameters.length() - 1) + ")";
+        StringBuilder text = new StringBuilder(method.getReturnType() + " " + method.getName());
+        text.append('(').append(parameters, 1, parameters.length() - 1).append(") throws");
+        for (Class<?> thrown : method.getExceptionTypes()) {
+            text.append(' ').append(thrown.getSimpleName());
+        }
+        return text.toString();
     }
 
     private static void theMethods() {
